@@ -15,8 +15,8 @@ public final class OracleTest {
         for (int run = 440; run < 446; run++) {
             new Run(run, 16, 40).go();
         }
-        for (int run = 446; run < 1500; run++) {
-            new Run(run, 18, 25).readTexts();
+        for (int run = 446; run < 3000; run++) {
+            new Run(run, 18, 12).readTexts();
         }
         KIT.finish();
     }
