@@ -14,6 +14,8 @@ public final class CoverExtract {
     private static final int MOST_BUDGET = 9999;
     private static final int FIRST_BUDGET = 100;
     private static final int MOST_PAST = 8;
+    private static final int HUNDREDTHS = 100;
+    private static final int THOUSANDTHS = 1000;
 
     private static final int OUT_OF_PLACE = 1;
     private static final int LONG_WORD = 2;
@@ -68,6 +70,7 @@ public final class CoverExtract {
         past.keep(now);
         reader.draft.budget = now.budget;
         now.copyFrom(reader.draft);
+        now.linkChains();
         return now.sentences;
     }
 
@@ -90,6 +93,7 @@ public final class CoverExtract {
         boolean was = now.leans(word);
         long bit = 1L << word;
         now.leaning = is ? now.leaning | bit : now.leaning & ~bit;
+        now.linkChains();
         return was == is ? 0 : 1;
     }
 
@@ -106,7 +110,7 @@ public final class CoverExtract {
         needState(now.fitsInto(sentence, now.taken));
         past.keep(now);
         int gain = now.gainOf(sentence, now.taken);
-        now.taken |= now.chainOf(sentence);
+        now.taken |= now.chains[sentence];
         return gain;
     }
 
@@ -166,7 +170,7 @@ public final class CoverExtract {
             case 3:
                 return now.weightOf(now.bags[sentence]);
             case 4:
-                return now.chainOf(sentence);
+                return now.chains[sentence];
             case 5:
                 return now.gainOf(sentence, now.taken);
             case 6:
@@ -238,14 +242,21 @@ public final class CoverExtract {
     public int bound(int what) throws IllegalArgumentException {
         needNumber(what, 0, 3);
         if (what == 0) {
-            return climb.singleOf(now);
+            return Climb.pickFor(now, 0, false);
         }
         climb.run(now, BY_RATE);
         ceiling.run(now, climb);
         if (what == 1) {
             return ceiling.least;
         }
-        return what == 2 ? ceiling.behind : shareOf(ceiling.least);
+        if (what == 2) {
+            return ceiling.behind;
+        }
+        if (ceiling.least == 0) {
+            return THOUSANDTHS;
+        }
+        climb.run(now, OR_SINGLE);
+        return now.coveredBy(climb.set) * THOUSANDTHS / ceiling.least;
     }
 
     public int best(int budget, int what) throws IllegalArgumentException {
@@ -268,10 +279,10 @@ public final class CoverExtract {
     }
 
     public int shortest(int share, int what) throws IllegalArgumentException {
-        needNumber(share, 0, 100);
+        needNumber(share, 0, HUNDREDTHS);
         needNumber(what, 0, 2);
         int all = now.coveredBy(now.everySentence());
-        search.findShortest(now, (all * share + 99) / 100);
+        search.findShortest(now, (all * share + HUNDREDTHS - 1) / HUNDREDTHS);
         if (what == 0) {
             return search.set;
         }
@@ -372,14 +383,6 @@ public final class CoverExtract {
         }
     }
 
-    private int shareOf(int ceilingOfAll) {
-        if (ceilingOfAll <= 0) {
-            return 1000;
-        }
-        climb.run(now, OR_SINGLE);
-        return (int) (now.coveredBy(climb.set) * 1000L / ceilingOfAll);
-    }
-
     private static boolean isIn(int sentence, int set) {
         return (set >>> sentence & 1) != 0;
     }
@@ -414,6 +417,7 @@ public final class CoverExtract {
         private final int[] lengths = new int[MOST_SENTENCES];
         private final int[] counts = new int[MOST_SENTENCES];
         private final int[] firsts = new int[MOST_SENTENCES];
+        private final int[] chains = new int[MOST_SENTENCES];
         private final long[] bags = new long[MOST_SENTENCES];
         // A word's letters lie in one number, so that words are alike if their numbers are.
         private final long[] spellings = new long[MOST_UNLIKE];
@@ -428,6 +432,7 @@ public final class CoverExtract {
             System.arraycopy(other.lengths, 0, lengths, 0, MOST_SENTENCES);
             System.arraycopy(other.counts, 0, counts, 0, MOST_SENTENCES);
             System.arraycopy(other.firsts, 0, firsts, 0, MOST_SENTENCES);
+            System.arraycopy(other.chains, 0, chains, 0, MOST_SENTENCES);
             System.arraycopy(other.bags, 0, bags, 0, MOST_SENTENCES);
             System.arraycopy(other.spellings, 0, spellings, 0, MOST_UNLIKE);
             System.arraycopy(other.weights, 0, weights, 0, MOST_UNLIKE);
@@ -487,22 +492,18 @@ public final class CoverExtract {
             return (1 << sentences) - 1;
         }
 
-        private boolean leansOnTheOneAhead(int sentence) {
-            return sentence > 0 && leans(firsts[sentence]);
-        }
-
-        private int chainOf(int sentence) {
-            int chain = 1 << sentence;
-            for (int s = sentence; s > 0 && leansOnTheOneAhead(s); s--) {
-                chain |= 1 << (s - 1);
+        private void linkChains() {
+            int chainAhead = 0;
+            for (int s = 0; s < sentences; s++) {
+                chains[s] = leans(firsts[s]) ? chainAhead | 1 << s : 1 << s;
+                chainAhead = chains[s];
             }
-            return chain;
         }
 
         private int allThatNeed(int sentence) {
             int set = 0;
             for (int s = 0; s < sentences; s++) {
-                if (isIn(sentence, chainOf(s))) {
+                if (isIn(sentence, chains[s])) {
                     set |= 1 << s;
                 }
             }
@@ -511,7 +512,7 @@ public final class CoverExtract {
 
         private boolean isWhole(int set) {
             for (int s = 0; s < sentences; s++) {
-                if (isIn(s, set) && leansOnTheOneAhead(s) && !isIn(s - 1, set)) {
+                if (isIn(s, set) && (chains[s] & ~set) != 0) {
                     return false;
                 }
             }
@@ -553,15 +554,15 @@ public final class CoverExtract {
         }
 
         private int gainOf(int sentence, int set) {
-            return weightOf(bagOf(chainOf(sentence)) & ~bagOf(set));
+            return weightOf(bagOf(chains[sentence]) & ~bagOf(set));
         }
 
         private int costOf(int sentence, int set) {
-            return lengthOf(chainOf(sentence) & ~set);
+            return lengthOf(chains[sentence] & ~set);
         }
 
         private boolean fitsInto(int sentence, int set) {
-            return !isIn(sentence, set) && lengthOf(set) + costOf(sentence, set) <= budget;
+            return !isIn(sentence, set) && lengthOf(set | chains[sentence]) <= budget;
         }
     }
 
@@ -677,7 +678,6 @@ public final class CoverExtract {
             int open = draft.sentences;
             if (wordsInOpen == 0) {
                 draft.lengths[open] = 0;
-                draft.counts[open] = 0;
                 draft.bags[open] = 0;
                 draft.firsts[open] = word;
             }
@@ -717,21 +717,17 @@ public final class CoverExtract {
                 }
                 steps[count] = pick;
                 count++;
-                set |= state.chainOf(pick);
+                set |= state.chains[pick];
             }
             if (kind == OR_SINGLE) {
                 compareWithSingle(state);
             }
         }
 
-        private int singleOf(State state) {
-            return pickFor(state, 0, false);
-        }
-
         private void compareWithSingle(State state) {
-            int single = singleOf(state);
+            int single = pickFor(state, 0, false);
             if (single != NONE && state.gainOf(single, 0) > state.coveredBy(set)) {
-                set = state.chainOf(single);
+                set = state.chains[single];
                 steps[0] = single;
                 count = 1;
             }
@@ -768,7 +764,7 @@ public final class CoverExtract {
 
     /** LAZY: the queue that asks no more than it must. */
     private static final class Queue {
-        // A look makes one leave or waits for one of the 16 others to be asked: 16 times 17 are enough.
+        // Between two that leave, each that waits is asked once at most: 16 times 17 looks are enough.
         private static final int MOST_LOOKS = 1000;
 
         private final int[] gains = new int[MOST_SENTENCES];
@@ -826,7 +822,7 @@ public final class CoverExtract {
             if (gains[sentence] == 0) {
                 waiting &= ~bit;
             } else if (foremost() == sentence) {
-                set |= state.chainOf(sentence);
+                set |= state.chains[sentence];
                 waiting &= ~bit;
             }
         }
@@ -842,7 +838,7 @@ public final class CoverExtract {
             least = ceilingBy(state, set);
             behind = 0;
             for (int k = 0; k < byRate.count && k < MOST_SENTENCES; k++) {
-                set |= state.chainOf(byRate.steps[k]);
+                set |= state.chains[byRate.steps[k]];
                 int ceiling = ceilingBy(state, set);
                 if (ceiling < least) {
                     least = ceiling;
@@ -968,7 +964,7 @@ public final class CoverExtract {
         }
 
         private boolean mayHave(State state, int sentence, int with) {
-            return sentence != barred && (!state.leansOnTheOneAhead(sentence) || isIn(sentence - 1, with));
+            return sentence != barred && (state.chains[sentence] & ~(with | 1 << sentence)) == 0;
         }
 
         private void offer(int with, int covers, int itsLength) {

@@ -12,7 +12,7 @@ import java.util.TreeSet;
 
 /** The document said a second time, by sets and lists and without any short cut. */
 final class Model {
-    private static final class Book implements Cloneable {
+    private static final class Book {
         List<List<String>> sentences = new ArrayList<>();
         List<String> unlike = new ArrayList<>();
         int[] weights = new int[0];
