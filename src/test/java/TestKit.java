@@ -1,4 +1,8 @@
+import java.io.IOException;
+import java.io.UncheckedIOException;
 import java.nio.charset.StandardCharsets;
+import java.nio.file.Files;
+import java.nio.file.Path;
 
 /** What the tests share: calls with the answer that is due, and texts put on the tape. */
 final class TestKit {
@@ -6,12 +10,31 @@ final class TestKit {
         long answer();
     }
 
+    private static final Path DOCUMENT = Path.of("../shared/DOC.md");
+
     private final String name;
     private int checks = 0;
     private int wrong = 0;
+    private String sentence = "";
 
     TestKit(String name) {
         this.name = name;
+    }
+
+    /** The document's text in one line. */
+    static String document() {
+        try {
+            return Files.readString(DOCUMENT).replaceAll("\\s+", " ");
+        } catch (IOException e) {
+            throw new UncheckedIOException(e);
+        }
+    }
+
+    /** The checks that follow are of these words, which must stand in the document. */
+    void says(String words) {
+        sentence = "";
+        compare("the document says '" + words + "'", "true", Boolean.toString(document().contains(words)));
+        sentence = "'" + words + "': ";
     }
 
     void due(String what, long want, Call call) {
@@ -26,7 +49,7 @@ final class TestKit {
         checks++;
         if (!want.equals(got)) {
             wrong++;
-            System.out.println(name + ": " + what + " answered " + got + ", due is " + want);
+            System.out.println(name + ": " + sentence + what + " answered " + got + ", due is " + want);
         }
     }
 
