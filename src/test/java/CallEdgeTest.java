@@ -470,6 +470,20 @@ public final class CallEdgeTest {
     }
 
     private static void steps() {
+        KIT.says("The SENTENCE whose CHAIN is taken by its k-th step");
+        CoverExtract four = TestKit.with(FOUR);
+        int[][] want = {{0, 3, 1}, {0, 2, 3, 1}, {0, 2, 3, 1}};
+        for (int i = 3; i >= 0; i--) {
+            for (int by = 0; by < 3; by++) {
+                int kind = by;
+                int k = i;
+                if (k < want[kind].length) {
+                    due("step(" + kind + ", " + k + ")", want[kind][k], () -> four.step(kind, k));
+                } else {
+                    KIT.refused("step(" + kind + ", " + k + ")", NO_SUCH, () -> four.step(kind, k));
+                }
+            }
+        }
         KIT.says("NoSuchElementException: not so many (behind IllegalArgumentException: no such KIND)");
         CoverExtract x = sixteen();
         x.budget(9999);
@@ -550,6 +564,10 @@ public final class CallEdgeTest {
         likeDue(x, 2, 3, 0, 1);
         x.weigh(1, 7);
         likeDue(x, 0, 1, 7, 1007);
+        x.weigh(1, 1);
+        likeDue(x, 0, 1, 1, 1001);
+        x.weigh(0, 0);
+        likeDue(x, 0, 1, 1, 1);
         KIT.refused("of one behind", NO_SUCH, () -> x.likeness(5, 0, 0));
         KIT.refused("to one behind", NO_SUCH, () -> x.likeness(0, 5, 0));
         KIT.refused("what 2", BAD_NUMBER, () -> x.likeness(0, 0, 2));

@@ -117,8 +117,14 @@ public final class ExtractEdgeTest {
         due("what it covers", 10, () -> oneLong(9).greedy(2, 1));
         due("its length", 20, () -> oneLong(9).greedy(2, 2));
         greedyDue(oneLong(10), 2, 1, 0);
-        due("alike: as 1", 2, () -> oneLong(10).greedy(2, 2));
         greedyDue(oneLong(11), 2, 1, 0);
+        // 1 takes 0 and 1, which cover 4; single is 2, which covers 3, 4, 5 by itself.
+        greedyDue(with("a. b. c d e f.", 8, 2, 2, 0), 2, 3, 0, 1);
+        greedyDue(with("a. b. c d e f.", 8, 2, 2, 1), 2, 3, 0, 1);
+        greedyDue(with("a. b. c d e f.", 8, 2, 2, 2), 2, 4, 2);
+        // 1 takes 1, which covers 5; single is 0, which covers 9.
+        greedyDue(with("a b. a. b a.", 5, 5, 4), 1, 2, 1);
+        greedyDue(with("a b. a. b a.", 5, 5, 4), 2, 1, 0);
         CoverExtract chained = with("a. b. c d e f g h i j k l m n o p q r s t.", 39, 9, 0);
         chained.lean(2, true);
         greedyDue(chained, 2, 6, 2);
@@ -167,6 +173,8 @@ public final class ExtractEdgeTest {
         KIT.says("each that FITS at each of its steps, and at the one that takes none");
         lazyDue(with("a. b. cc.", 9999), 7, 6, 6);
         lazyDue(with("a. b. cc.", 4), 3, 5, 4);
+        // By kind 0 it would be 3: sentence 2 leaves no room for others.
+        lazyDue(with("a. bb. cccc.", 5, 1, 2, 3), 3, 5, 4);
         lazyDue(with("a. a. a.", 9999), 1, 6, 5);
     }
 
@@ -241,9 +249,18 @@ public final class ExtractEdgeTest {
         boundDue(with("a. b.", 9999, 0, 0), 0, 0);
         boundDue(with("a. a. a.", 9999), 3, 1);
         boundDue(with("a. a. a.", 2), 3, 0);
+        // By kind 0 sentence 1 would be taken at once, and bound be 7 behind one step.
+        boundDue(with("a. b a. b.", 12, 3, 4), 7, 2);
+        // Kind 2 would be single, sentence 2. Behind one step 5, 2 and 3 times 2 by 4, cut.
+        boundDue(with("a. b. c b.", 4, 2, 5, 3), 8, 1);
+        // One step only; with sentence 0, which does not fit, it would be 9.
+        boundDue(with("a b. a. b a.", 5, 5, 4), 10, 1);
         KIT.says("2 behind how many steps BOUND is least (0: by nothing; the fewest)");
         boundDue(with("a. b. c.", 9999), 3, 0);
-        boundDue(with(FOUR, 100), 11, 2);
+        CoverExtract x = with(FOUR, 100);
+        boundDue(x, 11, 2);
+        x.budget(10);
+        boundDue(x, 9, 0);
     }
 
     private static void shareDue(CoverExtract x, int share) {
@@ -263,6 +280,7 @@ public final class ExtractEdgeTest {
         shareDue(with(FOUR, 13), 800);
         // Greedy 2 covers 10 by single; bound by nothing is 9 and 10 times 18 by 20.
         shareDue(oneLong(9), 555);
+        shareDue(with("a. b. c b.", 4, 2, 5, 3), 1000);
         shareDue(oneLong(2), 909);
     }
 
@@ -312,7 +330,9 @@ public final class ExtractEdgeTest {
         fewestDue(with("a. b.", 100, 0, 0), 0, 0, 0);
         fewestDue(with("a. b.", 100, 0, 1), 2, 1, 2);
         fewestDue(with("a. b. a b c.", 0), 4, 1, 6);
-        fewestDue(TestKit.with("a. b. c. a b cccccccccc c."), 8, 1, 17);
+        // The longer one, since the shorter two are more.
+        fewestDue(TestKit.with("a. b. a a b."), 4, 1, 6);
+        fewestDue(TestKit.with("a. b. c. b cccccccccc c b."), 9, 2, 19);
         fewestDue(TestKit.with("a.".repeat(16)), 1, 1, 2);
         CoverExtract chained = TestKit.with("a. b. a b c.");
         chained.lean(0, true);

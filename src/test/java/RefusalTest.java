@@ -286,7 +286,7 @@ public final class RefusalTest {
         for (int w = 0; w < x.told(1); w++) {
             all.append((char) x.letter(w, 0)).append(x.word(w, 0)).append(' ').append(x.word(w, 3)).append(' ');
         }
-        all.append('|').append(x.greedy(0, 0)).append(' ').append(x.greedy(2, 0)).append(' ').append(x.lazy(1));
+        all.append('|').append(x.greedy(0, 0)).append(' ').append(x.greedy(2, 0)).append(' ').append(x.lazy(1)).append(' ').append(x.lazy(2));
         all.append(' ').append(x.bound(1)).append(' ').append(x.best(50, 0)).append(' ').append(x.fewest(0));
         all.append(' ').append(x.shortest(70, 0)).append(' ').append(x.exchange(2)).append(' ').append(x.next(5));
         return all.toString();
