@@ -33,6 +33,9 @@ public final class CallEdgeTest {
         word();
         letter();
         steps();
+        greedyAndLazy();
+        boundAndFewest();
+        worth();
         budgetsAsked();
         exchangeNone();
         likeness();
@@ -498,6 +501,68 @@ public final class CallEdgeTest {
         KIT.refused("no such kind, and step", BAD_NUMBER, () -> x.step(3, 0));
         KIT.refused("no such kind, nor step", BAD_NUMBER, () -> x.step(-1, 99));
         KIT.refused("no step of nothing", NO_SUCH, () -> new CoverExtract().step(0, 0));
+    }
+
+    private static void greedyAndLazy() {
+        KIT.says("GREEDY by a KIND (0 to 2): 0 the set, 1 what it COVERS, 2 LENGTH, 3 how many steps");
+        CoverExtract x = TestKit.with(FOUR);
+        int[][] want = {{11, 11, 20, 3}, {15, 11, 22, 4}, {15, 11, 22, 4}};
+        for (int kind = 0; kind < 3; kind++) {
+            for (int i = 0; i < 4; i++) {
+                int by = kind;
+                int what = i;
+                due("greedy(" + by + ", " + what + ")", want[by][what], () -> x.greedy(by, what));
+            }
+        }
+        KIT.refused("kind -1", BAD_NUMBER, () -> x.greedy(-1, 0));
+        KIT.refused("kind 3", BAD_NUMBER, () -> x.greedy(3, 0));
+        KIT.refused("what -1", BAD_NUMBER, () -> x.greedy(2, -1));
+        KIT.refused("what 4", BAD_NUMBER, () -> x.greedy(2, 4));
+        KIT.says("LAZY: 0 the set, 1 how many were ASKED, 2 how many GREEDY 1 would ask");
+        int[] lazy = {15, 9, 10};
+        for (int i = 0; i < 3; i++) {
+            int what = i;
+            due("lazy(" + what + ")", lazy[what], () -> x.lazy(what));
+        }
+        KIT.refused("lazy(-1)", BAD_NUMBER, () -> x.lazy(-1));
+        KIT.refused("lazy(3)", BAD_NUMBER, () -> x.lazy(3));
+    }
+
+    private static void boundAndFewest() {
+        KIT.says("0 SINGLE (NONE), 1 BOUND, 2 behind how many steps BOUND is least (0: by nothing; the fewest), 3 SHARE");
+        CoverExtract none = new CoverExtract();
+        CoverExtract x = TestKit.with(FOUR);
+        int[] ofNone = {-1, 0, 0, 1000};
+        int[] ofFour = {0, 11, 2, 1000};
+        for (int i = 0; i < 4; i++) {
+            int what = i;
+            due("of nothing: bound(" + what + ")", ofNone[what], () -> none.bound(what));
+            due("bound(" + what + ")", ofFour[what], () -> x.bound(what));
+        }
+        KIT.refused("bound(-1)", BAD_NUMBER, () -> x.bound(-1));
+        KIT.refused("bound(4)", BAD_NUMBER, () -> x.bound(4));
+        KIT.says("FEWEST: 0 the set, 1 how many, 2 LENGTH.");
+        int[] fewest = {10, 2, 14};
+        for (int i = 0; i < 3; i++) {
+            int what = i;
+            due("of nothing: fewest(" + what + ")", 0, () -> none.fewest(what));
+            due("fewest(" + what + ")", fewest[what], () -> x.fewest(what));
+        }
+        KIT.refused("fewest(-1)", BAD_NUMBER, () -> x.fewest(-1));
+        KIT.refused("fewest(3)", BAD_NUMBER, () -> x.fewest(3));
+    }
+
+    private static void worth() {
+        KIT.says("`int worth(int sentence) throws NoSuchElementException`: WORTH.");
+        CoverExtract x = sixteen();
+        x.budget(144);
+        due("of the first", 3, () -> x.worth(0));
+        due("of the last", 3, () -> x.worth(15));
+        x.budget(143);
+        due("another takes its place", 0, () -> x.worth(15));
+        KIT.refused("of a 17th", NO_SUCH, () -> x.worth(16));
+        KIT.refused("of one ahead", NO_SUCH, () -> x.worth(-1));
+        KIT.refused("of none", NO_SUCH, () -> new CoverExtract().worth(0));
     }
 
     private static void budgetsAsked() {

@@ -8,6 +8,8 @@ public final class ExtractEdgeTest {
     private static final String SQUARE = "a b. a c. b d. c d.";
 
     public static void main(String[] args) {
+        whole();
+        fromNothing();
         greedyFits();
         greedyByGain();
         greedyByRate();
@@ -50,6 +52,42 @@ public final class ExtractEdgeTest {
             int at = k;
             due(name + ": step " + k, steps[k], () -> x.step(kind, at));
         }
+    }
+
+    private static void whole() {
+        KIT.says("An EXTRACT: a set of SENTENCES; it is WHOLE, if it has the CHAIN of each");
+        CoverExtract x = with("a. b. c.", 100, 1, 2, 4);
+        x.lean(1, true);
+        x.lean(2, true);
+        // Whole are 0 alone, 0 and 1, all, and nothing at all.
+        due("nothing is whole", 0, () -> x.best(0, 0));
+        due("up to 1", 0, () -> x.best(1, 0));
+        due("up to 3", 1, () -> x.best(3, 0));
+        due("up to 5", 3, () -> x.best(5, 0));
+        due("up to 6", 7, () -> x.best(6, 0));
+        due("nothing for a share of 0", 0, () -> x.shortest(0, 0));
+        due("for all", 7, () -> x.fewest(0));
+        // Taken by hand it may be left without its chain by a word that leans only then.
+        CoverExtract late = with("a. b. c.", 100, 1, 2, 4);
+        late.take(2);
+        late.lean(2, true);
+        due("it stays as it was taken", 4, () -> late.told(7));
+        due("what it covers", 4, () -> late.told(8));
+        due("nothing exchanged makes it whole", -1, () -> late.exchange(0));
+        due("the one it leans on can be taken", 2, () -> late.take(1));
+        due("dropped with the one that leans on it", 6, () -> late.drop(1));
+        due("nothing is left", 0, () -> late.told(7));
+    }
+
+    private static void fromNothing() {
+        KIT.says("GREEDY by a KIND, from nothing");
+        CoverExtract x = with(FOUR, 100);
+        x.take(1);
+        greedyDue(x, 0, 11, 0, 3, 1);
+        greedyDue(x, 1, 15, 0, 2, 3, 1);
+        greedyDue(x, 2, 15, 0, 2, 3, 1);
+        due("lazy, too", 9, () -> x.lazy(1));
+        due("what was taken by hand stays", 2, () -> x.told(7));
     }
 
     private static void greedyFits() {
