@@ -892,6 +892,8 @@ public final class CoverExtract {
         private static final int MOST_COVERED = 0;
         private static final int FEWEST_SENTENCES = 1;
         private static final int SHORTEST_LENGTH = 2;
+        // Behind each word stands a byte that is no letter, so that no length is above a text's bytes.
+        private static final int ANY_LENGTH = MOST_BYTES;
 
         private int order = MOST_COVERED;
         private int barred = NONE;
@@ -915,7 +917,7 @@ public final class CoverExtract {
         private void findFewest(State state) {
             order = FEWEST_SENTENCES;
             barred = NONE;
-            mostLength = Integer.MAX_VALUE;
+            mostLength = ANY_LENGTH;
             leastCovered = state.coveredBy(state.everySentence());
             visitAll(state);
         }
@@ -923,7 +925,7 @@ public final class CoverExtract {
         private void findShortest(State state, int least) {
             order = SHORTEST_LENGTH;
             barred = NONE;
-            mostLength = Integer.MAX_VALUE;
+            mostLength = ANY_LENGTH;
             leastCovered = least;
             visitAll(state);
         }

@@ -28,6 +28,7 @@ public final class ExtractEdgeTest {
         worth();
         exchange();
         next();
+        longest();
         KIT.finish();
     }
 
@@ -508,5 +509,28 @@ public final class ExtractEdgeTest {
         nextDue(chained, 2, 4);
         nextDue(chained, 4, 6);
         nextDue(chained, 6, -1);
+    }
+
+    // Fifteen sentences of 40 bytes that all are needed to cover all: no text has more LENGTH.
+    private static void longest() {
+        KIT.says("LENGTH: of all its SENTENCES together");
+        StringBuilder text = new StringBuilder();
+        for (int s = 0; s < 15; s++) {
+            text.append("bbbbbbbbb bbbbbbbbb bbbbbbbbb aaaaaaaa").append((char) ('a' + s)).append('.');
+        }
+        due("the text's bytes", 600, text::length);
+        CoverExtract x = with(text.toString(), 600);
+        due("length of all", 600, () -> x.told(4));
+        fewestDue(x, 32767, 15, 600);
+        shortestDue(x, 100, 32767, 30, 600);
+        bestDue(x, 599, 16383, 29, 560);
+        bestDue(x, 600, 32767, 30, 600);
+        bestDue(x, 9999, 32767, 30, 600);
+        nextDue(x, 559, 560);
+        nextDue(x, 560, 600);
+        nextDue(x, 599, 600);
+        nextDue(x, 600, -1);
+        due("greedy covers all", 30, () -> x.greedy(1, 1));
+        due("greedy's length", 600, () -> x.greedy(1, 2));
     }
 }

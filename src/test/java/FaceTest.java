@@ -26,6 +26,7 @@ public final class FaceTest {
         nested();
         privateNames();
         words();
+        library();
         methods();
         KIT.finish();
     }
@@ -120,6 +121,18 @@ public final class FaceTest {
         KIT.compare("imports", "1", Integer.toString(source.split("\nimport |^import ", -1).length - 1));
         KIT.compare("plain characters", "true",
             Boolean.toString(source.chars().allMatch(c -> c == '\n' || c >= 32 && c < 127)));
+    }
+
+    // What stands behind a name of the library with a dot must be one of the functions that rule 4 lists.
+    private static void library() throws IOException {
+        Set<String> listed = Set.of("Integer.compare", "Integer.bitCount", "Long.bitCount",
+            "Long.numberOfTrailingZeros", "System.arraycopy");
+        String source = Files.readString(SOURCE).replaceAll("//[^\n]*|/\\*(?s:.*?)\\*/", "");
+        Matcher m = Pattern.compile("\\b(?:Integer|Long|Math|System|Arrays|String|StringBuilder|Character|Byte|Short|"
+            + "Boolean|Object|List|ArrayList)\\b(?:\\.\\w+)?").matcher(source);
+        while (m.find()) {
+            KIT.compare(m.group() + " is listed", "true", Boolean.toString(listed.contains(m.group())));
+        }
     }
 
     private static void methods() throws IOException {
